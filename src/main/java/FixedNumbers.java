@@ -120,7 +120,7 @@ public final class FixedNumbers {
         long size = magnitude(a);
         if (size < 4) {
             // Below 2^-14 halves have exponent 0 and steps of 2^-24, of which a fixed number's step holds 256.
-            return size == 0 ? 0 : sign | (int) (size << 8);
+            return sign | (int) (size << 8);
         }
         int top = highestBit(size);
         int exponent = top - 1;
