@@ -1,7 +1,5 @@
 /** Promises 8, 9 and 10: channel, fixed and shade, each over all that is not refused. */
-public final class BytesTest {
-    private static final FixedNumbers NUMBERS = new FixedNumbers();
-
+public final class BytesTest extends Calls {
     public static void main(String[] args) {
         channels();
         fixedNumbers();
@@ -62,32 +60,16 @@ public final class BytesTest {
                 shade(x, y, Due.nearest(Due.big(x * y), Due.big(255)).longValueExact());
             }
         }
-        refusesShade(-1, -1);
-        refusesShade(256, 256);
-        refusesShade(Integer.MIN_VALUE, Integer.MIN_VALUE);
+        shadeRefused(-1, -1);
+        shadeRefused(256, 256);
+        shadeRefused(Integer.MIN_VALUE, Integer.MIN_VALUE);
     }
 
     private static void refusesByte(int c) {
-        Due.exception(() -> NUMBERS.fixed(c), IllegalArgumentException.class, "fixed", c);
-        refusesShade(c, 0);
-        refusesShade(0, c);
-        refusesShade(255, c);
-        refusesShade(c, 255);
-    }
-
-    private static void channel(int a, long want) {
-        Due.answer(NUMBERS.channel(a), want, "channel", a);
-    }
-
-    private static void fixed(int c, long want) {
-        Due.answer(() -> NUMBERS.fixed(c), want, "fixed", c);
-    }
-
-    private static void shade(int x, int y, long want) {
-        Due.answer(() -> NUMBERS.shade(x, y), want, "shade", x, y);
-    }
-
-    private static void refusesShade(int x, int y) {
-        Due.exception(() -> NUMBERS.shade(x, y), IllegalArgumentException.class, "shade", x, y);
+        fixedRefused(c);
+        shadeRefused(c, 0);
+        shadeRefused(0, c);
+        shadeRefused(255, c);
+        shadeRefused(c, 255);
     }
 }

@@ -1,4 +1,5 @@
 import java.math.BigInteger;
+import java.util.Arrays;
 import java.util.Random;
 
 /** What the tests share: the count of wrong answers, exact arithmetic to judge by, and arguments to try. */
@@ -10,6 +11,9 @@ final class Due {
     private static final int SHOWN = 20;
     private static int calls = 0;
     private static int wrong = 0;
+    private static String sentence = "";
+    private static int callsBefore = 0;
+    private static int shown = 0;
 
     private Due() {
     }
@@ -17,6 +21,14 @@ final class Due {
     /** A call of the face, so that its exception can be looked at. */
     interface Call {
         long answer();
+    }
+
+    /** What is looked at from here to the next sentence is that sentence's own test. */
+    static void sentence(String words) {
+        endSentence();
+        sentence = "\"" + words + "\": ";
+        callsBefore = calls;
+        shown = 0;
     }
 
     static void answer(long got, long want, String name, long... arguments) {
@@ -38,12 +50,12 @@ final class Due {
     static void that(boolean holds, String what) {
         calls++;
         if (!holds) {
-            wrong++;
-            System.out.println("does not hold: " + what);
+            tell("does not hold: " + what);
         }
     }
 
     static void end() {
+        endSentence();
         System.out.println(calls + " looked at, " + wrong + " wrong");
         if (wrong != 0 || calls == 0) {
             System.exit(1);
@@ -99,6 +111,12 @@ final class Due {
         return found;
     }
 
+    private static void endSentence() {
+        if (!sentence.isEmpty()) {
+            that(calls > callsBefore, "something is looked at");
+        }
+    }
+
     private static void outcome(Call call, String want, String name, long... arguments) {
         calls++;
         String got;
@@ -113,9 +131,14 @@ final class Due {
     }
 
     private static void tell(String name, long[] arguments, String got, String want) {
+        tell(name + Arrays.toString(arguments) + " answered " + got + ", due is " + want);
+    }
+
+    private static void tell(String what) {
         wrong++;
-        if (wrong <= SHOWN) {
-            System.out.println(name + java.util.Arrays.toString(arguments) + " answered " + got + ", due is " + want);
+        shown++;
+        if (shown <= SHOWN) {
+            System.out.println(sentence + what);
         }
     }
 }

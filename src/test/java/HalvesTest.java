@@ -1,8 +1,7 @@
 import java.math.BigInteger;
 
 /** Promises 11 and 12: fromHalf over all halves, toHalf against the list of all halves. */
-public final class HalvesTest {
-    private static final FixedNumbers NUMBERS = new FixedNumbers();
+public final class HalvesTest extends Calls {
     private static final int ENDLESS = 31 << 10;
     private static final int SIGN = 1 << 15;
 
@@ -80,7 +79,7 @@ public final class HalvesTest {
     /** Midway between two halves, and one step to each side. */
     private static void betweenNeighbours() {
         for (int h = 10240; h < 30720; h++) {
-            long midway = Math.round((NUMBERS.fromHalf(h) + (double) NUMBERS.fromHalf(h + 1)) / 2);
+            long midway = Math.round((numbers().fromHalf(h) + (double) numbers().fromHalf(h + 1)) / 2);
             for (long a = midway - 1; a <= midway + 1 && a <= Integer.MAX_VALUE; a++) {
                 toHalf((int) a, toHalfDue((int) a));
                 toHalf((int) -a, toHalfDue((int) -a));
@@ -91,8 +90,8 @@ public final class HalvesTest {
     /** Halves that are fixed numbers come back as they were. */
     private static void thereAndBack() {
         for (int h = 9216; h < 30720; h++) {
-            toHalf(NUMBERS.fromHalf(h), h);
-            toHalf(NUMBERS.fromHalf(SIGN | h), SIGN | h);
+            toHalf(numbers().fromHalf(h), h);
+            toHalf(numbers().fromHalf(SIGN | h), SIGN | h);
         }
     }
 
@@ -136,13 +135,5 @@ public final class HalvesTest {
         long toAbove = size(above) - wanted;
         boolean takesBelow = toBelow < toAbove || (toBelow == toAbove && below % 2 == 0);
         return (a < 0 ? SIGN : 0) | (takesBelow ? below : above);
-    }
-
-    private static void fromHalf(int h, long want) {
-        Due.answer(NUMBERS.fromHalf(h), want, "fromHalf", h);
-    }
-
-    private static void toHalf(int a, long want) {
-        Due.answer(NUMBERS.toHalf(a), want, "toHalf", a);
     }
 }

@@ -1,9 +1,7 @@
 import java.math.BigInteger;
 
 /** Promise 2: down, then the lowest 32 bits. */
-public final class ProductTest {
-    private static final FixedNumbers NUMBERS = new FixedNumbers();
-
+public final class ProductTest extends Calls {
     public static void main(String[] args) {
         product(65536, 65536, 65536);
         product(3, 65536, 3);
@@ -25,9 +23,5 @@ public final class ProductTest {
             }
         }
         Due.end();
-    }
-
-    private static void product(int a, int b, int want) {
-        Due.answer(NUMBERS.product(a, b), want, "product", a, b);
     }
 }

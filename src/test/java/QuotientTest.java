@@ -1,7 +1,5 @@
 /** Promise 3: down, cut, and what a divisor of 0 answers. */
-public final class QuotientTest {
-    private static final FixedNumbers NUMBERS = new FixedNumbers();
-
+public final class QuotientTest extends Calls {
     public static void main(String[] args) {
         byZero();
         quotient(65536, 3, 1431655765);
@@ -43,9 +41,5 @@ public final class QuotientTest {
         quotient(Integer.MAX_VALUE, 65536, Integer.MAX_VALUE);
         quotient(Integer.MAX_VALUE, 65535, Integer.MAX_VALUE);
         quotient(Integer.MIN_VALUE, -65536, Integer.MAX_VALUE);
-    }
-
-    private static void quotient(int a, int b, long want) {
-        Due.answer(() -> NUMBERS.quotient(a, b), want, "quotient", a, b);
     }
 }

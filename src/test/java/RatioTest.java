@@ -2,8 +2,7 @@ import java.math.BigInteger;
 import java.util.Random;
 
 /** Promise 6: the exact product, down, and what a long can't hold. */
-public final class RatioTest {
-    private static final FixedNumbers NUMBERS = new FixedNumbers();
+public final class RatioTest extends Calls {
     private static final long LEAST = Long.MIN_VALUE;
     private static final long GREATEST = Long.MAX_VALUE;
 
@@ -17,45 +16,45 @@ public final class RatioTest {
     }
 
     private static void signs() {
-        answers(7, 3, 2, 10);
-        answers(-7, 3, 2, -11);
-        answers(7, -3, 2, -11);
-        answers(7, 3, -2, -11);
-        answers(-7, -3, 2, 10);
-        answers(-7, -3, -2, -11);
-        answers(-6, 3, 2, -9);
-        answers(0, -3, 2, 0);
-        answers(-3, 0, -2, 0);
-        answers(1, -1, GREATEST, -1);
-        answers(1, 1, LEAST, -1);
+        ratio(7, 3, 2, 10);
+        ratio(-7, 3, 2, -11);
+        ratio(7, -3, 2, -11);
+        ratio(7, 3, -2, -11);
+        ratio(-7, -3, 2, 10);
+        ratio(-7, -3, -2, -11);
+        ratio(-6, 3, 2, -9);
+        ratio(0, -3, 2, 0);
+        ratio(-3, 0, -2, 0);
+        ratio(1, -1, GREATEST, -1);
+        ratio(1, 1, LEAST, -1);
     }
 
     private static void byZero() {
-        throwsArithmetic(1, 1, 0);
-        throwsArithmetic(0, 0, 0);
-        throwsArithmetic(LEAST, LEAST, 0);
+        ratioRefused(1, 1, 0);
+        ratioRefused(0, 0, 0);
+        ratioRefused(LEAST, LEAST, 0);
     }
 
     private static void heldOrNot() {
-        answers(GREATEST, GREATEST, GREATEST, GREATEST);
-        answers(LEAST, LEAST, LEAST, LEAST);
-        answers(LEAST, -1, -1, LEAST);
-        answers(LEAST, GREATEST, GREATEST, LEAST);
-        answers(LEAST, GREATEST, LEAST, GREATEST);
-        throwsArithmetic(LEAST, 1, -1);
-        throwsArithmetic(LEAST, -1, 1);
-        throwsArithmetic(LEAST, LEAST, GREATEST);
-        throwsArithmetic(LEAST, LEAST, 1);
-        throwsArithmetic(GREATEST, 2, 1);
-        throwsArithmetic(GREATEST, -2, 1);
-        throwsArithmetic(LEAST, LEAST, -GREATEST);
-        answers(GREATEST, GREATEST, LEAST, -GREATEST);
+        ratio(GREATEST, GREATEST, GREATEST, GREATEST);
+        ratio(LEAST, LEAST, LEAST, LEAST);
+        ratio(LEAST, -1, -1, LEAST);
+        ratio(LEAST, GREATEST, GREATEST, LEAST);
+        ratio(LEAST, GREATEST, LEAST, GREATEST);
+        ratioRefused(LEAST, 1, -1);
+        ratioRefused(LEAST, -1, 1);
+        ratioRefused(LEAST, LEAST, GREATEST);
+        ratioRefused(LEAST, LEAST, 1);
+        ratioRefused(GREATEST, 2, 1);
+        ratioRefused(GREATEST, -2, 1);
+        ratioRefused(LEAST, LEAST, -GREATEST);
+        ratio(GREATEST, GREATEST, LEAST, -GREATEST);
         // (2^64 - 1) / 2 is held on both sides of 0.
-        answers(4294967295L, 4294967297L, 2, GREATEST);
-        answers(4294967295L, -4294967297L, 2, LEAST);
+        ratio(4294967295L, 4294967297L, 2, GREATEST);
+        ratio(4294967295L, -4294967297L, 2, LEAST);
         // (2^64 + 1) / 2 is not: down leaves -2^63 - 1.
-        throwsArithmetic(274177, -67280421310721L, 2);
-        throwsArithmetic(274177, 67280421310721L, 2);
+        ratioRefused(274177, -67280421310721L, 2);
+        ratioRefused(274177, 67280421310721L, 2);
     }
 
     private static void edgesOfEachSize() {
@@ -91,22 +90,14 @@ public final class RatioTest {
 
     private static void judged(long a, long b, long c) {
         if (c == 0) {
-            throwsArithmetic(a, b, c);
+            ratioRefused(a, b, c);
             return;
         }
         BigInteger exact = Due.down(Due.big(a).multiply(Due.big(b)), Due.big(c));
         if (exact.bitLength() < 64) {
-            answers(a, b, c, exact.longValueExact());
+            ratio(a, b, c, exact.longValueExact());
         } else {
-            throwsArithmetic(a, b, c);
+            ratioRefused(a, b, c);
         }
-    }
-
-    private static void answers(long a, long b, long c, long want) {
-        Due.answer(() -> NUMBERS.ratio(a, b, c), want, "ratio", a, b, c);
-    }
-
-    private static void throwsArithmetic(long a, long b, long c) {
-        Due.exception(() -> NUMBERS.ratio(a, b, c), ArithmeticException.class, "ratio", a, b, c);
     }
 }

@@ -1,9 +1,7 @@
 import java.math.BigInteger;
 
 /** Promises 4 and 5: root and oneByRoot. */
-public final class RootTest {
-    private static final FixedNumbers NUMBERS = new FixedNumbers();
-
+public final class RootTest extends Calls {
     public static void main(String[] args) {
         edges();
         for (int a = -20; a < 70000; a++) {
@@ -54,20 +52,12 @@ public final class RootTest {
             oneByRoot(a, Integer.MAX_VALUE);
             return;
         }
-        long r = NUMBERS.oneByRoot(a);
+        long r = numbers().oneByRoot(a);
         Due.that(r >= 0 && notAbove(r, a) && !notAbove(r + 1, a), "oneByRoot(" + a + ") is the greatest, not " + r);
     }
 
     private static boolean notAbove(long r, int a) {
         BigInteger left = Due.big(r).multiply(Due.big(r)).multiply(Due.big(a));
         return left.compareTo(BigInteger.ONE.shiftLeft(48)) <= 0;
-    }
-
-    private static void root(int a, long want) {
-        Due.answer(NUMBERS.root(a), want, "root", a);
-    }
-
-    private static void oneByRoot(int a, long want) {
-        Due.answer(() -> NUMBERS.oneByRoot(a), want, "oneByRoot", a);
     }
 }
