@@ -23,12 +23,14 @@ public final class NewObjectTest {
 
     public static void main(String[] args) {
         faceIsTheDocuments();
+        firstCallsOfNewObjects();
         objectsDoNotTouchOneAnother();
         answersStayForAllCalls();
         Due.end();
     }
 
     private static void faceIsTheDocuments() {
+        Due.sentence("The public face");
         Class<?> face = FixedNumbers.class;
         Due.that(Modifier.isPublic(face.getModifiers()) && Modifier.isFinal(face.getModifiers()), "public final class");
         Constructor<?>[] constructors = face.getDeclaredConstructors();
@@ -55,7 +57,23 @@ public final class NewObjectTest {
         }
     }
 
+    private static void firstCallsOfNewObjects() {
+        Due.sentence("Promise 1: makes an object in the state that the terms give");
+        Due.answer(() -> new FixedNumbers().product(98304, -98304), -147456, "product of a new object");
+        Due.answer(() -> new FixedNumbers().quotient(-65536, 3), -1431655766, "quotient of a new object");
+        Due.answer(() -> new FixedNumbers().root(131072), 92681, "root of a new object");
+        Due.answer(() -> new FixedNumbers().oneByRoot(1), 16777216, "oneByRoot of a new object");
+        Due.answer(() -> new FixedNumbers().ratio(-7, 3, 2), -11, "ratio of a new object");
+        Due.answer(() -> new FixedNumbers().between(100, 0, 1, 3), 66, "between of a new object");
+        Due.answer(() -> new FixedNumbers().channel(129), 1, "channel of a new object");
+        Due.answer(() -> new FixedNumbers().fixed(128), 32897, "fixed of a new object");
+        Due.answer(() -> new FixedNumbers().shade(255, 128), 128, "shade of a new object");
+        Due.answer(() -> new FixedNumbers().fromHalf(48128), -65536, "fromHalf of a new object");
+        Due.answer(() -> new FixedNumbers().toHalf(2051), 10242, "toHalf of a new object");
+    }
+
     private static void objectsDoNotTouchOneAnother() {
+        Due.sentence("Promise 1: a new object, whatever was asked of another");
         FixedNumbers one = new FixedNumbers();
         FixedNumbers other = new FixedNumbers();
         one.product(7, 9);
@@ -65,6 +83,7 @@ public final class NewObjectTest {
     }
 
     private static void answersStayForAllCalls() {
+        Due.sentence("Promise 1: the state stays, as no promise tells a change of it");
         FixedNumbers numbers = new FixedNumbers();
         long first = 0;
         for (int round = 0; round < 32; round++) {
